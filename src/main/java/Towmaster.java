@@ -1069,9 +1069,8 @@ public final class Towmaster {
 
         // A goal is at most 7 sections away, each entered and left once: 512 calls tell fewer notes than this.
         private static final int MOST_NOTES = 8192;
-        private static final int NOTES_OF_PAGE = 64;
 
-        private final Page first = new Page(NOTES_OF_PAGE);
+        private final Page first = new Page();
         private Page last = first;
         private int noteCount;
 
@@ -1080,7 +1079,7 @@ public final class Towmaster {
                 return;
             }
             if (last.isFull()) {
-                Page page = new Page(NOTES_OF_PAGE);
+                Page page = new Page();
                 last.next = page;
                 last = page;
             }
@@ -1120,13 +1119,11 @@ public final class Towmaster {
     }
 
     private static final class Page {
-        final int[] notes;
+        private static final int LENGTH = 64;
+
+        final int[] notes = new int[LENGTH];
         int used;
         Page next;
-
-        Page(int length) {
-            notes = new int[length > 0 ? length : 1];
-        }
 
         boolean isFull() {
             return used >= notes.length;

@@ -278,8 +278,9 @@ public final class BoatTest {
         Check.due("not there yet", t.ofBoat(0, 9), 1);
         Check.due("agreed still", t.radio(1, 0, true), true);
         t.pass(1);
-        Check.due("over as it comes to a point", t.radio(1, 0, true), false);
-        Check.due("over with the other one too", t.radio(2, 0, true), false);
+        Check.due("over as it comes to a point", t.radio(0, 1, false), false);
+        Check.due("over for the other one", t.radio(1, 0, true), false);
+        Check.due("over with the third one too", t.radio(2, 0, true), false);
         Check.due("others agree still", t.radio(2, 1, true), true);
     }
 
@@ -452,6 +453,17 @@ public final class BoatTest {
         t.go(1, 4);
         t.pass(1);
         place(t, 2, 24);
+        for (int k = 0; k < 60; k++) {
+            t.go(0, k % 2 == 0 ? 7 : 0);
+            t.pass(k % 7 + 1);
+            Check.due("a long story", t.placeAnew(1), t.ofBarge(1, 0));
+            if (t.ofBoat(0, 0) != Towmaster.NONE && t.ofBoat(0, 3) < 500) {
+                t.fuel(0, 499);
+            }
+        }
+        t.go(1, 3);
+        t.pass(48);
+        place(t, 2, 13);
         Check.noSuch(t, "barge 2", () -> t.placeAnew(2));
         Check.noSuch(t, "barge -1", () -> t.placeAnew(-1));
     }

@@ -219,6 +219,13 @@ public final class CargoTest {
         Check.due("in time to the hour", pay(1, 100, 3, 0), 4 * 10);
         Check.due("an hour late", pay(1, 100, 2, 0), 4 * 9);
         Check.due("below 0", pay(1, 0, 0, 0), 4 * -3);
+
+        Towmaster t = new Towmaster();
+        t.contract(Towmaster.COAL, 5, 4, 9, 99, 100);
+        t.barge(Towmaster.OPEN, 5, 0);
+        t.load(0, 0, 2);
+        bring(t, 5, 4);
+        Check.due("down a section", t.unload(0), 2 * 10);
     }
 
     /** What 4 units pay that go up some sections of an hour each way, unloaded in the hour 3 if it is one. */

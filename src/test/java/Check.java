@@ -44,13 +44,22 @@ final class Check {
             call.run();
             fail(what + " was answered, due is " + due.getName());
         } catch (RuntimeException thrown) {
-            if (thrown.getClass() != due) {
+            if (thrown.getClass() != due || !isThrownByTowmaster(thrown)) {
                 fail(what + " threw " + thrown + ", due is " + due.getName());
             }
         }
         if (!picture(t).equals(before)) {
             fail(what + " changed what it should have left alone");
         }
+    }
+
+    /** What the machine throws is of other classes; what the library throws begins in the library. */
+    static boolean isThrownByTowmaster(Throwable thrown) {
+        StackTraceElement[] trace = thrown.getStackTrace();
+        return trace.length > 0 && trace[0].getClassName().startsWith("Towmaster")
+                && (thrown.getClass() == IndexOutOfBoundsException.class
+                || thrown.getClass() == IllegalArgumentException.class
+                || thrown.getClass() == IllegalStateException.class);
     }
 
     /** All that can be asked of an object without changing it. */

@@ -127,7 +127,7 @@ public final class RandomRunsTest {
         } catch (InvocationTargetException e) {
             Class<?> thrown = e.getCause().getClass();
             for (Class<?> clause : METHODS.get(name).getExceptionTypes()) {
-                if (clause == thrown) {
+                if (clause == thrown && Check.isThrownByTowmaster(e.getCause())) {
                     return "throws " + thrown.getName();
                 }
             }

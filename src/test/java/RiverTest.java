@@ -4,6 +4,7 @@ public final class RiverTest {
         promise1NewObject();
         promise2Reach();
         promise2KeepsIceAndShut();
+        promise2FromLock();
         promise3Lock();
         promise3KeepsDepthIceAndShut();
         promise3NoneWentYet();
@@ -35,6 +36,18 @@ public final class RiverTest {
         t.boat(1, 1, 7);
         Check.due("all reaches of 2 hours, down", t.hours(1, 0), 14);
         Check.due("rows of 2 places at first", t.wide(0, 2), 2);
+        t.boat(9, 4, 4);
+        t.wide(2, 4);
+        t.bank(4, 0, 4);
+        for (int barge = 0; barge < 4; barge++) {
+            t.barge(Towmaster.OPEN, 4, 0);
+        }
+        for (int barge = 3; barge > 0; barge--) {
+            t.couple(2, barge);
+        }
+        Check.due("a width of 3 at first", t.hours(2, 5), 4);
+        t.couple(2, 0);
+        Check.due("no greater one", t.hours(2, 5), Towmaster.NONE);
     }
 
     private static void promise2Reach() {
@@ -77,6 +90,15 @@ public final class RiverTest {
         Check.due("shut still", t.bars(0), Towmaster.SHUT);
         Check.due("ice still", t.weather(0, 2, false), 2);
         Check.due("ice lengthens it", t.hours(0, 1), 10);
+    }
+
+    private static void promise2FromLock() {
+        Towmaster t = new Towmaster();
+        t.lock(4, 1, 1, false);
+        t.boat(9, 4, 4);
+        Check.due("a lock", t.hours(0, 5), 1);
+        t.reach(4, 3, 30, 3, false);
+        Check.due("a reach again", t.hours(0, 5), 6);
     }
 
     private static void promise3Lock() {
@@ -146,6 +168,13 @@ public final class RiverTest {
         t.lock(0, 1, 1, false);
         Check.due("made anew, it is as at first", t.bars(0), Towmaster.LOCK);
         Check.due("and down goes ahead", t.bars(2), 0);
+        t.pass(4);
+        Check.due("down, then up", t.ofBoat(0, 0), 1);
+        t.lock(0, 1, 3, false);
+        t.go(0, 0);
+        t.go(1, 1);
+        Check.due("whatever went before, down goes ahead", t.bars(0), 0);
+        Check.due("of up", t.bars(1), Towmaster.LOCK);
     }
 
     private static void promise4Dredge() {
