@@ -932,7 +932,7 @@ public final class Towmaster {
             if (k == barges.size()) {
                 return more;
             }
-            return k < 0 || k > barges.size() ? null : barges.get(k);
+            return k < 0 || k >= barges.size() ? null : barges.get(k);
         }
     }
 

@@ -282,6 +282,14 @@ public final class BoatTest {
         Check.due("over for the other one", t.radio(1, 0, true), false);
         Check.due("over with the third one too", t.radio(2, 0, true), false);
         Check.due("others agree still", t.radio(2, 1, true), true);
+        t.radio(0, 2, true);
+        t.radio(0, 1, true);
+        t.fuel(2, 99);
+        t.go(2, 1);
+        t.pass(3);
+        Check.due("over with those of lower numbers", t.radio(0, 2, false), false);
+        Check.due("over with those of lower numbers", t.radio(1, 2, false), false);
+        Check.due("others agree still", t.radio(1, 0, false), true);
     }
 
     private static void promise21Go() {
