@@ -20,6 +20,13 @@ final class Check {
         }
     }
 
+    static void due(String what, String got, String want) {
+        asked++;
+        if (!got.equals(want)) {
+            fail(what + " answered " + got + ", due is " + want);
+        }
+    }
+
     static void fail(String what) {
         wrong++;
         System.out.println(what);
