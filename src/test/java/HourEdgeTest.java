@@ -23,6 +23,7 @@ public final class HourEdgeTest {
         fewerThanItsTurns();
         theEarlierHour();
         causeOfTheLatestHour();
+        eachCauseIsCountedApart();
         Check.end("HourEdgeTest");
     }
 
@@ -504,5 +505,59 @@ public final class HourEdgeTest {
         t.pass(1);
         Check.due("it entered", t.ofBoat(0, 10), 0);
         Check.due("waited in all", t.all(6), 1);
+    }
+
+    private static void eachCauseIsCountedApart() {
+        for (int cause = Towmaster.WORK; cause <= Towmaster.AGROUND; cause++) {
+            Towmaster t = barredBy(cause);
+            Check.due("none waited yet", t.all(6), 0);
+            if (cause != Towmaster.AGROUND) {
+                Check.due("it would wait by " + cause, t.bars(0), cause);
+            }
+            for (int hours = 1; hours <= 2; hours++) {
+                t.pass(1);
+                Check.due("it waits by " + cause, t.ofBoat(0, 10), cause);
+                for (int other = Towmaster.WORK; other <= Towmaster.AGROUND; other++) {
+                    Check.due("by " + cause + ", counted for " + other, t.waited(0, other), other == cause ? hours : 0);
+                }
+                Check.due("none else waited", t.all(6), hours);
+            }
+        }
+    }
+
+    /** A boat at the point 0 whose goal is 1, and which waits for that cause alone, for two hours at least. */
+    private static Towmaster barredBy(int cause) {
+        Towmaster t = new Towmaster();
+        t.boat(1, 1, 0);
+        t.fuel(0, cause == Towmaster.FUEL ? 3 : 4);
+        if (cause == Towmaster.WIDE) {
+            tow(t, 0, 2);
+            t.reach(0, 2, 30, 1, false);
+        } else if (cause == Towmaster.SHALLOW) {
+            t.stage(-19, 0);
+        } else if (cause == Towmaster.MEET || cause == Towmaster.LOCK) {
+            t.reach(0, 9, 30, 4, cause == Towmaster.MEET);
+            if (cause == Towmaster.LOCK) {
+                t.lock(0, 1, 1, false);
+            }
+            t.weather(0, 3, false);
+            t.boat(6, 1, 1);
+            t.fuel(1, 99);
+            t.go(1, 0);
+            t.pass(1);
+            t.weather(0, 0, false);
+            t.fuel(0, 99);
+        } else if (cause == Towmaster.AGROUND) {
+            t.go(0, 1);
+            t.pass(1);
+            t.stage(-21, 0);
+        }
+        t.go(0, 1);
+        t.weather(0, cause == Towmaster.WEAK ? 1 : 0, cause == Towmaster.SHUT);
+        if (cause == Towmaster.WORK) {
+            t.couple(0, t.barge(Towmaster.OPEN, 0, 0));
+            t.couple(0, t.barge(Towmaster.OPEN, 0, 0));
+        }
+        return t;
     }
 }
